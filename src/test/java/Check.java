@@ -1,0 +1,30 @@
+/** Counts and prints the answers that are not the ones that are due. */
+final class Check {
+    private static int wrong = 0;
+
+    private Check() {
+    }
+
+    static void due(String call, long got, long want) {
+        if (got != want) {
+            wrong++;
+            System.out.println(call + " answered " + got + ", due is " + want);
+        }
+    }
+
+    static void due(String call, boolean got, boolean want) {
+        due(call, got ? 1 : 0, want ? 1 : 0);
+    }
+
+    static boolean allRight() {
+        return wrong == 0;
+    }
+
+    /** To be called last: a test with a wrong answer ends with exit code 1. */
+    static void end() {
+        System.out.println(wrong == 0 ? "all answers are as due" : wrong + " answers are not as due");
+        if (wrong != 0) {
+            System.exit(1);
+        }
+    }
+}
