@@ -233,14 +233,23 @@ public final class BitCopier {
         return true;
     }
 
+    /*
+     * Source and target may be one form. Going on away from the side where the source bits lie,
+     * by rows and within a row by words, never reads a source word that was already written.
+     */
     private int copyBits() {
         findReach(across, X);
         findReach(down, Y);
-        int counted = across.length() * down.length();
-        if (counted > 0) {
-            copyRows();
+        int columns = across.length();
+        int rows = down.length();
+        if (columns == 0 || rows == 0) {
+            return 0;
         }
-        return counted;
+        boolean upwards = down.shift < 0;
+        for (int n = 0; n < rows; n++) {
+            copyRow(upwards ? down.end - 1 - n : down.start + n);
+        }
+        return columns * rows;
     }
 
     private void findReach(Reach reach, int axis) {
@@ -252,39 +261,24 @@ public final class BitCopier {
         }
     }
 
-    /*
-     * Source and target may be one form. Going on away from the side where the source bits lie,
-     * by rows and within a row by words, never reads a source word that was already written.
-     */
-    private void copyRows() {
-        boolean upwards = down.shift < 0;
-        int rows = down.length();
-        for (int n = 0; n < rows; n++) {
-            copyRow(upwards ? down.end - 1 - n : down.start + n);
-        }
-    }
-
     private void copyRow(int y) {
         boolean leftwards = across.shift < 0;
         int first = across.start / WORD_BITS;
         int last = (across.end - 1) / WORD_BITS;
         for (int n = 0; n <= last - first; n++) {
-            copyWord(y, leftwards ? last - n : first + n);
+            int k = leftwards ? last - n : first + n;
+            int at = y * target.rowWords + k;
+            int old = target.words[at];
+            int mask = spanMask(k, across.start, across.end);
+            target.words[at] = old & ~mask | byRule(incoming(k, y), old) & mask;
         }
-    }
-
-    private void copyWord(int y, int k) {
-        int at = y * target.rowWords + k;
-        int old = target.words[at];
-        int mask = spanMask(k, across.start, across.end);
-        target.words[at] = old & ~mask | byRule(incoming(y, k), old) & mask;
     }
 
     /*
      * A pattern that is the target itself needs no copy kept: it is one word wide and 16 rows high
      * then, so each of its words is read here just before that same word is written.
      */
-    private int incoming(int y, int k) {
+    private int incoming(int k, int y) {
         int bits = WORD_MASK;
         if (source != null) {
             bits = source.bitsFrom(k * WORD_BITS + across.shift, y + down.shift);
