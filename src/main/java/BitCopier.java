@@ -234,7 +234,7 @@ public final class BitCopier {
     }
 
     /*
-     * Source and target may be one form. Going on away from the side where the source bits lie,
+     * Source and target may be one form. Going towards the side where the source bits lie,
      * by rows and within a row by words, never reads a source word that was already written.
      */
     private int copyBits() {
