@@ -126,15 +126,11 @@ public final class CopyTest {
     private static void overlapping(int dx, int dy) {
         BitCopier x = wide(100, 8);
         int noise = 12345;
-        int[][] before = new int[8][100];
+        int[] before = new int[56];
         for (int i = 0; i < 56; i++) {
             noise = noise * 1103515245 + 12345;
             x.put(0, i, noise >>> 8);
-        }
-        for (int yy = 0; yy < 8; yy++) {
-            for (int xx = 0; xx < 100; xx++) {
-                before[yy][xx] = x.bit(0, xx, yy);
-            }
+            before[i] = x.word(0, i);
         }
         x.forms(0, 0, -1);
         x.set(2, 20, 3);
@@ -144,33 +140,44 @@ public final class CopyTest {
         int counted = 0;
         boolean right = true;
         int answer = x.copy();
+        int[] after = new int[56];
+        for (int i = 0; i < 56; i++) {
+            after[i] = x.word(0, i);
+        }
         for (int yy = 0; yy < 8; yy++) {
             for (int xx = 0; xx < 100; xx++) {
                 int i = xx - 20 - dx;
                 int j = yy - 3 - dy;
                 boolean counts = i >= 0 && i < 41 && j >= 0 && j < 2 && xx >= 1;
                 counted += counts ? 1 : 0;
-                right &= x.bit(0, xx, yy) == (counts ? before[3 + j][20 + i] : before[yy][xx]);
+                int due = counts ? bitOf(before, 20 + i, 3 + j) : bitOf(before, xx, yy);
+                right &= bitOf(after, xx, yy) == due;
             }
         }
         Check.due("counted, moved by " + dx + " " + dy, answer, counted);
         Check.due("bits, moved by " + dx + " " + dy, right, true);
     }
 
+    /** Of words in rows of 7: an object answers 512 calls, too few to ask for each bit. */
+    private static int bitOf(int[] words, int xx, int yy) {
+        return words[yy * 7 + xx / 16] >> 15 - xx % 16 & 1;
+    }
+
     private static void patternModulo() {
         BitCopier x = wide(40, 35);
+        int[] rows = new int[16];
         for (int i = 0; i < 16; i++) {
-            x.put(1, i, 1 << i | 0x8000 >>> i * 3 % 16);
+            rows[i] = 1 << i | 0x8000 >>> i * 3 % 16;
+            x.put(1, i, rows[i]);
         }
         x.forms(0, -1, 1);
         x.set(0, 3, 5);
         x.set(2, 9, 9);
         Check.due("copy", x.copy(), 37 * 30);
-        for (int yy = 0; yy < 35; yy++) {
-            for (int xx = 0; xx < 40; xx++) {
-                boolean in = xx >= 3 && yy >= 5;
-                Check.due("bit " + xx + " " + yy, x.bit(0, xx, yy), in ? x.bit(1, xx % 16, yy % 16) : 0);
-            }
+        int[] masks = {0x1FFF, 0xFFFF, 0xFF00};
+        for (int i = 0; i < 105; i++) {
+            int due = i / 3 < 5 ? 0 : rows[i / 3 % 16] & masks[i % 3];
+            Check.due("word " + i, x.word(0, i), due);
         }
     }
 

@@ -1,9 +1,12 @@
+import java.util.Arrays;
 import java.util.Random;
 
 /** Long runs of calls, compared with a model that does every bit by itself, as the document says it. */
 public final class ModelTest {
-    private static final int RUNS = 400;
+    private static final int RUNS = 1500;
+    /** An object is good for so many calls, those that look at its state among them. */
     private static final int CALLS = 512;
+    private static final int CALLS_AT_THE_END = 150;
 
     private final Random random;
     private final BitCopier real = new BitCopier();
@@ -13,6 +16,7 @@ public final class ModelTest {
     private int source = -1;
     private int pattern = -1;
     private int rule = 3;
+    private String name = "";
 
     private ModelTest(int seed) {
         random = new Random(seed);
@@ -26,32 +30,90 @@ public final class ModelTest {
     }
 
     private void run(int seed) {
-        for (int call = 0; call < CALLS && Check.allRight(); call++) {
-            String name = "seed " + seed + " call " + call;
-            switch (random.nextInt(12)) {
-                case 0 -> form(name);
-                case 1, 2, 3 -> put(name);
-                case 4 -> forms(name);
-                case 5 -> rule(name);
-                case 6, 7, 8 -> set(name);
-                case 9, 10 -> copy(name);
-                default -> line(name);
-            }
-            if (call % 8 == 7) {
-                compare(name);
+        for (int call = 1; call <= CALLS; call++) {
+            name = "seed " + seed + " call " + call + " ";
+            if (call > CALLS - CALLS_AT_THE_END || random.nextInt(4) == 0) {
+                look();
+            } else {
+                change();
             }
         }
     }
 
-    private void form(String name) {
+    private void change() {
+        switch (random.nextInt(12)) {
+            case 0 -> form();
+            case 1, 2, 3 -> put();
+            case 4 -> forms();
+            case 5 -> rule();
+            case 6, 7, 8 -> set();
+            case 9, 10 -> copy();
+            default -> line();
+        }
+    }
+
+    private void look() {
+        int f = random.nextInt(3) == 0 ? random.nextInt(4) : target;
+        switch (random.nextInt(8)) {
+            case 0 -> Check.due(name + "count " + f, real.count(f), ones(f));
+            case 1 -> lookAtNumber();
+            case 2 -> lookAtBit(f);
+            case 3 -> lookAtTwo(f);
+            default -> lookAtWord(f);
+        }
+    }
+
+    private int ones(int f) {
+        int sum = 0;
+        for (int[] row : bits[f]) {
+            for (int bit : row) {
+                sum += bit;
+            }
+        }
+        return sum;
+    }
+
+    private void lookAtNumber() {
+        int k = random.nextInt(10);
+        Check.due(name + "order " + k, real.order(k / 2, k % 2 == 1), numbers[k]);
+    }
+
+    private void lookAtBit(int f) {
+        int y = random.nextInt(bits[f].length);
+        int x = random.nextInt(bits[f][0].length);
+        Check.due(name + "bit " + f + " " + x + " " + y, real.bit(f, x, y), bits[f][y][x]);
+    }
+
+    private void lookAtTwo(int f) {
+        int g = random.nextInt(4);
+        boolean alike = bits[f].length == bits[g].length;
+        for (int y = 0; alike && y < bits[f].length; y++) {
+            alike = Arrays.equals(bits[f][y], bits[g][y]);
+        }
+        Check.due(name + "same " + f + " " + g, real.same(f, g), alike);
+    }
+
+    private void lookAtWord(int f) {
+        int width = bits[f][0].length;
+        int row = (width + 15) / 16;
+        int i = random.nextInt(row * bits[f].length);
+        int due = 0;
+        for (int k = 0; k < 16; k++) {
+            int x = i % row * 16 + k;
+            due = 2 * due + (x < width ? bits[f][i / row][x] : 0);
+        }
+        Check.due(name + "word " + f + " " + i, real.word(f, i), due);
+    }
+
+    private void form() {
         int f = random.nextInt(4);
         int width = random.nextBoolean() ? 16 : 1 + random.nextInt(70);
         int height = random.nextBoolean() ? 16 : 1 + random.nextInt(30);
         bits[f] = new int[height][width];
-        Check.due(name + " form", real.form(f, width, height), (width + 15) / 16 * height);
+        Check.due(name + "form", real.form(f, width, height), (width + 15) / 16 * height);
     }
 
-    private void put(String name) {
+    private void put() {
         int f = random.nextInt(4);
         int width = bits[f][0].length;
         int row = (width + 15) / 16;
@@ -60,10 +122,10 @@ public final class ModelTest {
         for (int k = 0; k < 16 && i % row * 16 + k < width; k++) {
             bits[f][i / row][i % row * 16 + k] = w >> 15 - k & 1;
         }
-        Check.due(name + " put", real.put(f, i, w), true);
+        Check.due(name + "put", real.put(f, i, w), true);
     }
 
-    private void forms(String name) {
+    private void forms() {
         int t = random.nextInt(4);
         int s = random.nextInt(3) == 0 ? t : random.nextInt(5) - 1;
         int p = random.nextInt(2) == 0 ? -1 : random.nextInt(4);
@@ -73,25 +135,25 @@ public final class ModelTest {
             source = s;
             pattern = p;
         }
-        Check.due(name + " forms", real.forms(t, s, p), good);
+        Check.due(name + "forms", real.forms(t, s, p), good);
     }
 
     private boolean fits(int p) {
         return p == -1 || bits[p].length == 16 && bits[p][0].length == 16;
     }
 
-    private void rule(String name) {
+    private void rule() {
         rule = random.nextInt(16);
-        Check.due(name + " rule", real.rule(rule), true);
+        Check.due(name + "rule", real.rule(rule), true);
     }
 
-    private void set(String name) {
+    private void set() {
         int what = random.nextInt(5);
         int a = number(what);
         int b = number(what);
         numbers[2 * what] = a;
         numbers[2 * what + 1] = b;
-        Check.due(name + " set", real.set(what, a, b), true);
+        Check.due(name + "set", real.set(what, a, b), true);
     }
 
     private int number(int what) {
@@ -103,8 +165,8 @@ public final class ModelTest {
         return length ? random.nextInt(80) - 2 : random.nextInt(50) - 15;
     }
 
-    private void copy(String name) {
-        Check.due(name + " copy", real.copy(), fits(pattern) ? copyBits() : -1);
+    private void copy() {
+        Check.due(name + "copy", real.copy(), fits(pattern) ? copyBits() : -1);
     }
 
     private int copyBits() {
@@ -153,12 +215,12 @@ public final class ModelTest {
         return result;
     }
 
-    private void line(String name) {
+    private void line() {
         int reach = random.nextInt(10) == 0 ? 60 : 8;
         int dx = random.nextInt(2 * reach + 1) - reach;
         int dy = random.nextInt(2 * reach + 1) - reach;
         int due = fits(pattern) ? drawn(dx, dy) : -1;
-        Check.due(name + " line", real.line(dx, dy), due);
+        Check.due(name + "line", real.line(dx, dy), due);
     }
 
     private int drawn(int dx, int dy) {
@@ -189,23 +251,5 @@ public final class ModelTest {
             }
         }
         return counted;
-    }
-
-    private void compare(String name) {
-        for (int k = 0; k < 10; k++) {
-            Check.due(name + " order " + k, real.order(k / 2, k % 2 == 1), numbers[k]);
-        }
-        for (int f = 0; f < 4; f++) {
-            int ones = 0;
-            boolean right = true;
-            for (int y = 0; y < bits[f].length; y++) {
-                for (int x = 0; x < bits[f][0].length; x++) {
-                    ones += bits[f][y][x];
-                    right &= real.bit(f, x, y) == bits[f][y][x];
-                }
-            }
-            Check.due(name + " bits of " + f, right, true);
-            Check.due(name + " count " + f, real.count(f), ones);
-        }
     }
 }
